@@ -404,7 +404,7 @@ public final class PainBank {
         int most = 0;
         for (int i = 0; i < n; i++) {
             course.pass(draft, false);
-            most = Math.max(most, course.total);
+            most = Math.max(most, draft.accountsOf(draft.everybody()));
         }
         return most;
     }
@@ -1264,14 +1264,13 @@ public final class PainBank {
         final int[] given = new int[MOST_PEOPLE];
         final int[] taken = new int[MOST_PEOPLE];
         final int[] felt = new int[MOST_PEOPLE];
-        // Six deep, each with a sum, an "and" and an "or" that wait, needs fewer.
+        // An "and" and an "or" that wait at each depth, and a comparison, need fewer.
         final int[] stack = new int[64];
         boolean wet;
         int who;
         int bears;
         int account;
         int day;
-        int total;
 
         /** One day more, by draws or without rain and falls: on how many it was too much. */
         int pass(State s, boolean drawn) {
@@ -1288,8 +1287,7 @@ public final class PainBank {
             if ((day + 1) % 10 == 0) {
                 addInterest(s);
             }
-            total = s.accountsOf(s.everybody());
-            if (total > s.vault) {
+            if (s.accountsOf(s.everybody()) > s.vault) {
                 breakBank(s);
             }
             s.day = s.dayIn(1);
