@@ -285,6 +285,7 @@ final class CrowdEdges {
         }
         Check.due("below 0", b.saint(-1, 0, true), 0);
         Check.due("of no pain nobody is sure", b.saint(0, 1, true), 0);
+        Check.due("nor is the only one, for the set of nobody makes it, too", many(1, "").saint(0, 0, true), 0);
         Check.due("nobody", new PainBank().saint(0, 0, true), 0);
         Check.due("nobody", new PainBank().saint(5, 0, true), 0);
         PainBank nines = Check.banked(TextEdges.people(8).replace("0000000", "9999999"));

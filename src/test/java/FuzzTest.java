@@ -39,11 +39,11 @@ public final class FuzzTest {
     }
 
     private void go() {
-        int calls = 0;
         wild = random.nextInt(4) == 0;
         tellPeople();
-        while (calls < 450) {
-            calls += step();
+        // A step makes 25 calls at most, and an object is used for 512.
+        while (calls < 487) {
+            step();
             if (mismatch) {
                 System.out.println("run " + number + " after " + told);
                 return;
@@ -52,6 +52,7 @@ public final class FuzzTest {
     }
 
     private boolean mismatch;
+    private int calls;
 
     private long of(Check.Call call) {
         try {
@@ -72,6 +73,7 @@ public final class FuzzTest {
     }
 
     private void same(String call, long want, Check.Call got) {
+        calls++;
         long answer = of(got);
         told.add(call + " = " + answer);
         Check.due("run " + number + ": " + call, answer, want);
@@ -206,10 +208,11 @@ public final class FuzzTest {
         return s.toString();
     }
 
-    private int bankText(String text) {
+    private void bankText(String text) {
         if (text.length() > 400) {
             text = text.substring(0, 400);
         }
+        calls += (text.length() + 19) / 20 + 2;
         Check.feed(bank, text);
         long want;
         try {
@@ -226,13 +229,13 @@ public final class FuzzTest {
         }
         same("bank " + text, want, bank::bank);
         same("fault", fault, bank::fault);
-        return text.length() / 20 + 4;
     }
 
-    private int lawOf(String text) {
+    private void lawOf(String text) {
         if (text.length() > 400) {
             text = text.substring(0, 400);
         }
+        calls += (text.length() + 19) / 20 + 2;
         Check.feed(bank, text);
         long want;
         try {
@@ -246,41 +249,41 @@ public final class FuzzTest {
         }
         same("law " + text, want, bank::law);
         same("fault", fault, bank::fault);
-        return text.length() / 20 + 4;
     }
 
     // ---- calls
 
-    private int step() {
+    private void step() {
         switch (random.nextInt(wild ? 12 : 20)) {
             case 0:
                 StringBuilder text = new StringBuilder();
                 for (int i = any(0, random.nextInt(8) == 0 ? 15 : 4); i >= 0; i--) {
                     text.append(bankLine()).append(i > 0 ? random.nextBoolean() ? ";" : " ; " : "");
                 }
-                return bankText(random.nextInt(3) == 0 ? bent(text.toString()) : text.toString());
+                bankText(random.nextInt(3) == 0 ? bent(text.toString()) : text.toString());
+                break;
             case 1:
                 String law = lawText();
-                return lawOf(random.nextInt(3) == 0 ? bent(law) : law);
+                lawOf(random.nextInt(3) == 0 ? bent(law) : law);
+                break;
             case 2:
             case 3:
             case 4:
                 acts();
-                return 1;
+                break;
             case 5:
                 memories();
-                return 1;
+                break;
             case 6:
             case 7:
                 people();
-                return 1;
+                break;
             case 8:
             case 9:
                 days();
-                return 1;
+                break;
             default:
                 sets();
-                return 1;
         }
     }
 
@@ -427,6 +430,7 @@ public final class FuzzTest {
             case 0:
                 image = m.copy();
                 bank.image();
+                calls++;
                 told.add("image");
                 break;
             case 1:

@@ -18,6 +18,7 @@ final class LawEdges {
         painAtMost();
         accountAtMost();
         aheadOfThatDay();
+        byThen();
         withoutText();
         sixDeep();
     }
@@ -269,6 +270,22 @@ final class LawEdges {
         PainBank b = one(3);
         Check.rule(b, "put 9;draw 9");
         Check.due("the account is what was put", b.ahead(0, 1), 9);
+    }
+
+    private static void byThen() {
+        Check.sentence("PUT and DRAWN by all as it is by then", 19, 20);
+        PainBank b = Check.banked("person bears 10 pain 1111111;person bears 10 pain 1111111;vault 99999;rate 0;account 0 3;account 1 5");
+        Check.rule(b, "put 1 if account < 5;draw 2 if account > 4");
+        // 0: 3, 4, 5, then 2 less each time that it is above 4; 1: 5, 3, 4, 5, 3.
+        int[][] due = {{3, 5}, {4, 3}, {5, 4}, {3, 5}, {4, 3}};
+        for (int n = 0; n < due.length; n++) {
+            Check.due("0 by " + n, b.ahead(0, n), due[n][0]);
+            Check.due("1 by " + n, b.ahead(1, n), due[n][1]);
+        }
+        // On the day itself the account ahead of it counts in both.
+        PainBank c = one(4);
+        Check.rule(c, "put 9;draw 3 if account > 4");
+        Check.due("4 is not above 4", c.today(0, 1), 0);
     }
 
     private static void withoutText() {

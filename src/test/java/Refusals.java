@@ -29,6 +29,9 @@ final class Refusals {
         nothingChangesByTexts();
         tapeStays();
         noSuchOnes();
+        noSuchNumbers();
+        theDead();
+        failedBank();
         nobodyAtAll();
     }
 
@@ -306,6 +309,93 @@ final class Refusals {
         Check.outside("share with " + p, () -> b.share(0, p) ? 1 : 0);
         Check.outside("shares of " + p, () -> b.shares(p, 0));
         Check.outside("shares with " + p, () -> b.shares(0, p));
+    }
+
+    private static void noSuchNumbers() {
+        Check.sentence("IllegalArgumentException: a number is none, or two are one.", 9, 11, 12, 13, 14, 19, 20, 21, 23, 24, 32, 33, 37, 38, 42, 43);
+        PainBank b = made(Kind.RICH);
+        for (int n : new int[] {LEAST, -1, 61, MOST}) {
+            Check.none("ahead " + n, () -> b.ahead(0, n));
+            Check.none("fails " + n, () -> b.fails(n) ? 1 : 0);
+            Check.none("cost " + n, () -> b.cost(0, n));
+            Check.none("needed " + n, () -> b.needed(n));
+            Check.none("days " + n, () -> b.days(n));
+            Check.none("peak " + n, () -> b.peak(0, n, true));
+        }
+        for (int n : new int[] {LEAST, -1, 41, MOST}) {
+            Check.none("trial " + n, () -> b.trial(n, true));
+            Check.none("span " + n, () -> b.span(n, true));
+            Check.none("plan " + n, () -> b.plan(0, n, 0));
+        }
+        for (int n : new int[] {LEAST, -1, 0, MOST}) {
+            Check.none("put " + n, () -> b.put(0, n));
+            Check.none("draw " + n, () -> b.draw(0, n));
+            Check.none("cheque " + n, () -> b.cheque(0, 2, n));
+            Check.none("owe " + n, () -> b.owe(0, 1, n));
+        }
+        for (int p = 0; p < 3; p++) {
+            int one = p;
+            Check.none("owed", () -> b.owed(one, one));
+            Check.none("cheque", () -> b.cheque(one, one, 1));
+            Check.none("owe", () -> b.owe(one, one, 1));
+            Check.none("share", () -> b.share(one, one) ? 1 : 0);
+            Check.none("shares", () -> b.shares(one, one));
+        }
+    }
+
+    private static void theDead() {
+        Check.sentence("ALIVE or dead", 7, 8, 9, 14, 17, 20, 23, 24, 26, 34, 44);
+        // What does not say that the dead are refused answers of them, too; 1 is dead and has 50.
+        PainBank b = made(Kind.RICH);
+        int[] told = {9, 50, 0, 0, -1, 0, 11, 0, 0, 0};
+        for (int what = 0; what < told.length; what++) {
+            Check.due("person(1, " + what + ")", b.person(1, what), told[what]);
+        }
+        Check.due("pain", b.pain(1, 6), 1);
+        Check.due("owed", b.owed(2, 1), 7);
+        Check.due("owe", b.owe(1, 2, 5), 5);
+        Check.due("owe", b.owe(2, 1, 5), 12);
+        Check.due("hear", b.hear(1, 7), 0);
+        Check.due("hears", b.person(1, 5), 5);
+        Check.due("ahead", b.ahead(1, 60), 50);
+        Check.due("plan", b.plan(1, 1, -1), 51);
+        Check.due("cost", b.cost(1, 60), 0);
+        Check.due("ring", b.ring(1), 2);
+        Check.due("could", b.could(1), 0);
+        Check.due("led", b.led(1, true), 0);
+        // What does say so refuses them.
+        Check.cannot("today", () -> b.today(1, 0));
+        Check.cannot("put", () -> b.put(1, 1));
+        Check.cannot("draw", () -> b.draw(1, 1));
+        Check.cannot("cheque", () -> b.cheque(1, 0, 1));
+        Check.cannot("die", () -> b.die(1));
+        Check.cannot("run", () -> b.run(1, false));
+        Check.cannot("share", () -> b.share(1, 0) ? 1 : 0);
+        Check.cannot("shares", () -> b.shares(1, 0));
+        Check.cannot("peak", () -> b.peak(1, 1, false));
+        Check.cannot("rank", () -> b.rank(1));
+    }
+
+    private static void failedBank() {
+        Check.sentence("FAILED or not.", 14, 15, 16, 17, 18, 19, 27, 32, 33, 34, 40, 50);
+        // Put, draw and cheque alone are refused by a bank that failed; 0 has 50, 2 has 99990.
+        PainBank b = made(Kind.FAILED);
+        Check.due("owe", b.owe(0, 1, 5), 9);
+        Check.due("hear", b.hear(0, 2), 4);
+        Check.due("net", b.net() > 0, true);
+        Check.due("run", b.run(0, false), 5);
+        Check.due("share", b.share(0, 2), false);
+        Check.due("could", b.could(0), 0);
+        Check.due("rank", b.rank(0) >= 0, true);
+        Check.due("die", b.die(0), 2);
+        Check.due("failed still", b.count(11), 1);
+        Check.due("days", b.days(1) >= 0, true);
+        Check.due("failed still", b.count(11), 1);
+        Check.tell(b, "rate 1");
+        Check.due("by no text either", b.count(11), 1);
+        Check.due("refound", b.refound(), true);
+        Check.due("not any more", b.count(11), 0);
+        Check.due("so that one may put again", b.put(2, 1) > 0, true);
     }
 
     private static void nobodyAtAll() {

@@ -22,6 +22,7 @@ final class TextEdges {
         pains();
         sevenFigures();
         accounts();
+        aliveOrDead();
         heirs();
         hears();
         forged();
@@ -66,6 +67,8 @@ final class TextEdges {
         Check.due("rows", b.count(13), 0);
         Check.due("too much", b.count(12), 0);
         Check.due("failed", b.count(11), 0);
+        Check.sentence("DAY: 0 at first", 1, 50);
+        Check.due("day", b.count(4), 0);
         Check.due("a day of nobody", b.days(1), 0);
         Check.due("and its day", b.count(4), 1);
     }
@@ -322,6 +325,24 @@ final class TextEdges {
         Check.due("0", b.person(0, 1), 0);
         Check.wrongBank(b, "account 0 -1", 10);
         Check.due("the other one's", b.person(1, 1), 0);
+    }
+
+    private static void aliveOrDead() {
+        Check.sentence("ALIVE or dead", 4, 7, 50);
+        PainBank b = Check.banked(people(3) + ";account 1 50;forged 1 5");
+        Check.due("alive at first", b.count(1), 7);
+        Check.due("alive at first", b.person(1, 3), 1);
+        Check.rightBank(b, "dead 1");
+        Check.due("dead", b.person(1, 3), 0);
+        Check.due("dead", b.count(1), 5);
+        Check.due("the account is not told anew", b.person(1, 1), 50);
+        Check.due("nor forged", b.person(1, 2), 5);
+        Check.rightBank(b, "dead 1;dead 0");
+        Check.due("dead once more", b.count(1), 4);
+        b.die(2);
+        Check.due("nobody", b.count(1), 0);
+        Check.rightBank(b, ONE);
+        Check.due("a new one is alive", b.count(1), 8);
     }
 
     private static void heirs() {
