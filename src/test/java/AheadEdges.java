@@ -377,6 +377,10 @@ final class AheadEdges {
         Check.rightLaw(b, "put 1 if wet;put 1 if pain > 1", 2);
         Check.rightBank(b, "rain 100;fall 100");
         Check.due("without rain and falls", b.needed(60), 5);
+        PainBank dead = Check.banked("person bears 9 pain 0000000;person bears 9 pain 0000000;account 0 5;account 1 7;dead 1");
+        Check.rightLaw(dead, "", 0);
+        Check.due("the dead one's counts", dead.needed(1), 12);
+        Check.due("the dead one's counts in a trial, too", dead.trial(1, true), 12);
         Check.due("nothing stays", b.count(5), 99999);
     }
 

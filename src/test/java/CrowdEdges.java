@@ -91,6 +91,8 @@ final class CrowdEdges {
         b.die(1);
         Check.due("who died has nothing to leave", b.person(3, 8), 50);
         Check.due("for it went to 3", b.person(3, 1), 7);
+        Check.rightBank(b, "account 1 9");
+        Check.due("nor does one die who is dead", b.person(3, 8), 50);
     }
 
     private static void heirs() {
@@ -125,6 +127,9 @@ final class CrowdEdges {
         Check.due("fewer than by the greatest", b.netted(), 3);
         Check.due("by the greatest", b.net(), 4);
         Check.due("the fewest stay", b.netted(), 3);
+        PainBank dead = many(4, "owes 0 2 3;owes 1 3 4;owes 3 0 1;dead 0;dead 1;dead 3");
+        Check.due("the dead owe and are owed", dead.netted(), 3);
+        Check.due("all of them", dead.net(), 3);
     }
 
     private static void rings() {
@@ -194,6 +199,8 @@ final class CrowdEdges {
         b.die(1);
         Check.due("nobody alive", b.spark(), -1);
         Check.due("by who has nothing", many(2, "account 0 50;hears 0 1;vault 49").spark(), 1);
+        Check.due("the dead are not told", many(3, "account 0 50;account 1 10;account 2 10;dead 0;vault 9").spark(), 2);
+        Check.due("nor is the last one", many(3, "account 0 10;account 1 10;account 2 50;dead 2;vault 19").spark(), 3);
     }
 
     private static void sparkBits() {
@@ -235,10 +242,10 @@ final class CrowdEdges {
         Check.due("three", b.feelings(), 2);
         b.die(0);
         Check.due("two", b.feelings(), 1);
+        Check.rightBank(b, "account 0 1");
+        Check.due("the dead are none", b.feelings(), 1);
         Check.rightBank(b, "account 3 1");
         Check.due("three", b.feelings(), 2);
-        Check.rightBank(b, "account 0 1");
-        Check.due("the dead are none", b.feelings(), 2);
     }
 
     private static void saints() {
@@ -291,6 +298,8 @@ final class CrowdEdges {
         PainBank nines = Check.banked(TextEdges.people(8).replace("0000000", "9999999"));
         Check.due("all eight", nines.saint(72, 3, true), 255);
         Check.due("seven of eight", nines.saint(63, 3, true), 0);
+        Check.rightBank(nines, "dead 7;dead 6");
+        Check.due("the dead are people", nines.saint(72, 3, true), 255);
     }
 
     private static void share() {
@@ -371,6 +380,14 @@ final class CrowdEdges {
         Check.due("of those alive", b.could(0), 1);
         Check.due("what a dead one has", Check.banked(three + "5;dead 0").could(0), 2);
         Check.due("forged is of the account", Check.banked(three + "6;forged 0 6").could(0), 0);
+        PainBank later = Check.banked(three + "5");
+        Check.rightLaw(later, "", 0);
+        later.days(1);
+        Check.due("by the pain of today: 3 and 4 are gone", later.could(0), 3);
+        Check.rightBank(later, "account 0 8");
+        Check.due("by the pain of today", later.could(0), 1);
+        Check.rightBank(later, "account 0 4");
+        Check.due("by the pain of today", later.could(0), 7);
         Check.outside("3", () -> b.could(3));
         Check.outside("-1", () -> b.could(-1));
     }
@@ -388,6 +405,13 @@ final class CrowdEdges {
         Check.due("none", Check.banked(three + "8;dead 0").fewest(), -1);
         Check.due("the dead one's account counts", Check.banked(three + "1;dead 1").fewest(), 1);
         Check.due("all dead", Check.banked(three + "0;dead 0;dead 1;dead 2").fewest(), 0);
+        PainBank later = Check.banked(three + "20");
+        Check.rightLaw(later, "", 0);
+        Check.due("today there is not room enough", later.fewest(), -1);
+        later.days(1);
+        Check.due("by the pain of today there is", later.fewest(), 7);
+        Check.rightBank(later, "account 1 8");
+        Check.due("by the pain of today one is enough", later.fewest(), 1);
     }
 
     private static void fewestBits() {
@@ -420,6 +444,9 @@ final class CrowdEdges {
         Check.due("of those alive", b.quiet(false), 0);
         b.die(1);
         Check.due("of nobody alive", b.quiet(false) + b.quiet(true), 0);
+        PainBank dead = Check.banked("person bears 9 pain 2111111;person bears 9 pain 0999999;dead 1");
+        Check.due("the dead one's pain does not count", dead.quiet(false), 1);
+        Check.due("the dead one's pain does not count", dead.quiet(true), 1);
     }
 
     private static void parted() {
@@ -450,6 +477,12 @@ final class CrowdEdges {
         Check.due("3 against 5 and 8", many(3, "account 0 5;account 1 3;account 2 8").parted(true), 3);
         PainBank b = many(4, "account 0 90;account 1 5;account 2 3;account 3 8;dead 0");
         Check.due("of those alive", b.parted(true), 6);
+        PainBank dead = many(2, "account 0 5;account 1 5;dead 0");
+        Check.due("the dead are in no part", dead.parted(true), 0);
+        Check.due("the dead are in no part", dead.parted(false), 5);
+        PainBank last = many(3, "account 0 5;account 1 6;account 2 4;dead 2");
+        Check.due("nor is the last one", last.parted(true), 1);
+        Check.due("nor is the last one", last.parted(false), 1);
     }
 
     private static void ranks() {

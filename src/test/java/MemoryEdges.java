@@ -335,6 +335,8 @@ final class MemoryEdges {
         PainBank b = Check.banked("person bears 1 pain 2222222;person bears 9 pain 0000000;account 1 50;forged 1 5;heir 0 1;hears 0 1;owes 0 1 5");
         Check.rightLaw(b, "put 1", 1);
         b.days(3);
+        Check.rightLaw(b, "put 1 if day > 3", 1);
+        b.days(1);
         b.seed(42);
         b.image();
         b.days(60);
@@ -345,10 +347,12 @@ final class MemoryEdges {
         Check.rightBank(b, "person bears 1 pain 0000000;vault 1;rate 1;rain 1;fall 1;heir 1 0;account 2 9;owes 1 0 9");
         b.days(1);
         b.back();
-        int[] due = {2, 3, 1, 1, 3, 999, 2, 0, 0, 53, 5, 0, 0, 0, 0};
+        int[] due = {2, 3, 1, 1, 4, 999, 2, 0, 0, 53, 5, 0, 1, 1, 0};
         for (int what = 0; what < due.length; what++) {
             Check.due("count(" + what + ")", b.count(what), due[what]);
         }
+        Check.due("the row of day 3", b.log(0, 0), 3);
+        Check.due("no other row", b.log(1, 0), -1);
         Check.due("heir", b.person(0, 4), 1);
         Check.due("heir", b.person(1, 4), -1);
         Check.due("hears", b.person(0, 5), 2);
