@@ -133,6 +133,9 @@ final class ActEdges {
             Check.due("forged after " + row[0], b.person(0, 2), row[2]);
             Check.due("account after " + row[0], b.person(0, 1), 50 - row[0]);
         }
+        PainBank twice = three("account 0 50;forged 0 5");
+        Check.due("3 of 5 forged", twice.draw(0, 3), 0);
+        Check.due("2 of them are left", twice.draw(0, 3), 1);
     }
 
     private static void drawDeadOrFailed() {
@@ -342,6 +345,12 @@ final class ActEdges {
         Check.due("dead", b.person(0, 3), 0);
         Check.due("the heir's heir has none of it", b.person(2, 1), 0);
         Check.due("of nothing there is an heir, too", three("heir 0 1").die(0), 1);
+        PainBank later = three("account 0 50;forged 0 5;heir 0 1");
+        later.put(1, 10);
+        later.draw(0, 2);
+        Check.due("as all is by then", later.die(0), 1);
+        Check.due("account", later.person(1, 1), 58);
+        Check.due("forged", later.person(1, 2), 3);
     }
 
     private static void dyingWithoutHeir() {
