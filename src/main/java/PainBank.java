@@ -156,7 +156,7 @@ public final class PainBank {
         if (what < 0 || what > 2) {
             throw new NoSuchElementException("no such what");
         }
-        feelToday();
+        goAhead(1);
         if (what == 0) {
             return course.given[person];
         }
@@ -417,7 +417,7 @@ public final class PainBank {
     public int rank(int person) throws IndexOutOfBoundsException, IllegalStateException {
         mustBePerson(person);
         mustLive(person);
-        feelToday();
+        goAhead(1);
         int above = 0;
         for (int p = 0; p < now.people; p++) {
             if (now.isAlive(p) && course.felt[p] > course.felt[person]) {
@@ -563,10 +563,6 @@ public final class PainBank {
         if (now.failed) {
             throw new IllegalStateException("the bank failed");
         }
-    }
-
-    private void feelToday() {
-        goAhead(1);
     }
 
     private void goAhead(int n) {
@@ -1034,27 +1030,20 @@ public final class PainBank {
             size = 0;
             lines = 0;
             draws = 0;
-            if (!t.isEnd() && !readLines(t)) {
+            boolean more = !t.isEnd();
+            while (more && lines < LAW_LINES) {
+                if (!readLine(t, lines)) {
+                    return null;
+                }
+                lines++;
+                starts[lines] = size;
+                more = t.takesSign(';');
+            }
+            // What is left is no law's, or a line too many.
+            if (more || !t.isEnd()) {
                 return null;
             }
             return new Law(lines, draws, amounts, starts, Arrays.copyOf(code, size));
-        }
-
-        private boolean readLines(Text t) {
-            for (int line = 0; line < LAW_LINES; line++) {
-                if (!readLine(t, line)) {
-                    return false;
-                }
-                lines = line + 1;
-                starts[lines] = size;
-                if (t.isEnd()) {
-                    return true;
-                }
-                if (!t.takesSign(';')) {
-                    return false;
-                }
-            }
-            return false;
         }
 
         private boolean readLine(Text t, int line) {
@@ -1114,7 +1103,17 @@ public final class PainBank {
                 emit(SUNDAY);
                 return true;
             }
-            return readComparison(t);
+            if (!readSum(t)) {
+                return false;
+            }
+            boolean less = t.isSign('<');
+            if (!less && !t.isSign('>')) {
+                return false;
+            }
+            t.step();
+            boolean right = readSum(t);
+            emit(less ? LESS : MORE);
+            return right;
         }
 
         private boolean readDenied(Text t, int depth) {
@@ -1125,25 +1124,15 @@ public final class PainBank {
             return true;
         }
 
-        private boolean readComparison(Text t) {
-            if (!readSum(t)) {
-                return false;
-            }
-            boolean less = t.isSign('<');
-            if (!less && !t.isSign('>')) {
-                return false;
-            }
-            t.step();
-            if (!readSum(t)) {
-                return false;
-            }
-            emit(less ? LESS : MORE);
-            return true;
-        }
-
         private boolean readSum(Text t) {
             for (int parts = 0; parts < TAPE_SIZE; parts++) {
-                int part = partAt(t);
+                int part = t.isNumber(FIGURES, 0, 999) ? t.value
+                    : t.isWord("who") ? WHO
+                    : t.isWord("pain") ? PAIN
+                    : t.isWord("account") ? ACCOUNT
+                    : t.isWord("bears") ? BEARS
+                    : t.isWord("day") ? DAY
+                    : NONE;
                 if (part == NONE) {
                     return false;
                 }
@@ -1158,25 +1147,6 @@ public final class PainBank {
                 t.step();
             }
             return false;
-        }
-
-        private static int partAt(Text t) {
-            if (t.isNumber(FIGURES, 0, 999)) {
-                return t.value;
-            }
-            if (t.isWord("who")) {
-                return WHO;
-            }
-            if (t.isWord("pain")) {
-                return PAIN;
-            }
-            if (t.isWord("account")) {
-                return ACCOUNT;
-            }
-            if (t.isWord("bears")) {
-                return BEARS;
-            }
-            return t.isWord("day") ? DAY : NONE;
         }
 
         private void emit(int op) {
@@ -1281,6 +1251,7 @@ public final class PainBank {
                 if (s.isAlive(p)) {
                     boolean falls = drawn && drawsBelow(s, s.fall);
                     ache[p] = s.painOn(p, day) + (falls ? FALL_PAIN : 0);
+                    decide(s, p);
                     settle(s, p);
                 }
             }
@@ -1338,32 +1309,30 @@ public final class PainBank {
             return (s.seed >>> 16 & 32767) % 100 < bound;
         }
 
-        private void settle(State s, int p) {
-            given[p] = 0;
-            taken[p] = 0;
-            if (!s.failed) {
-                decide(s, p);
-            }
-            int unfelt = Math.min(s.forged[p], taken[p]);
-            s.forged[p] -= unfelt;
-            int rest = s.account[p] + given[p] - taken[p];
-            int above = Math.max(0, rest - FULL_ACCOUNT);
-            s.account[p] = rest - above;
-            felt[p] = ache[p] - given[p] + taken[p] - unfelt + above;
-        }
-
         private void decide(State s, int p) {
             who = p;
             bears = s.bears[p];
             account = s.account[p];
             int puts = ache[p] - bears;
             int draws = bears - ache[p];
-            if (s.law != null) {
+            if (s.failed) {
+                puts = 0;
+                draws = 0;
+            } else if (s.law != null) {
                 puts = s.law.sumOf(0, this);
                 draws = s.law.sumOf(1, this);
             }
             given[p] = Math.max(0, Math.min(puts, ache[p]));
             taken[p] = Math.max(0, Math.min(draws, account));
+        }
+
+        private void settle(State s, int p) {
+            int unfelt = Math.min(s.forged[p], taken[p]);
+            s.forged[p] -= unfelt;
+            int rest = s.account[p] + given[p] - taken[p];
+            int above = Math.max(0, rest - FULL_ACCOUNT);
+            s.account[p] = rest - above;
+            felt[p] = ache[p] - given[p] + taken[p] - unfelt + above;
         }
 
         private static void addInterest(State s) {
