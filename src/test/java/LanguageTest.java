@@ -14,6 +14,7 @@ import com.sun.source.tree.LiteralTree;
 import com.sun.source.tree.MemberReferenceTree;
 import com.sun.source.tree.MethodInvocationTree;
 import com.sun.source.tree.MethodTree;
+import com.sun.source.tree.NewArrayTree;
 import com.sun.source.tree.NewClassTree;
 import com.sun.source.tree.SynchronizedTree;
 import com.sun.source.tree.ThrowTree;
@@ -59,6 +60,8 @@ public final class LanguageTest {
         "java.lang.Math.min", "java.lang.Math.max", "java.lang.Math.abs", "java.lang.Math.floorMod", "java.lang.Math.floorDiv",
         "java.lang.Integer.bitCount", "java.lang.System.arraycopy", "java.util.Arrays.fill", "java.util.Arrays.copyOf",
         "java.util.Arrays.copyOfRange", "Array.clone", "java.lang.Object.<init>");
+    private static final Set<String> COPIERS = Set.of("java.util.Arrays.copyOf", "java.util.Arrays.copyOfRange", "Array.clone");
+    private static final String MAKER = "PainBank.LawReader.read(t)";
     private static final Set<String> IMPORTS = Set.of(
         "java.util.Arrays", "java.util.NoSuchElementException", "java.util.ArrayList", "java.util.List", "java.util.Iterator");
     private static final Set<String> EXCEPTIONS = Set.of(
@@ -184,7 +187,9 @@ public final class LanguageTest {
             inside = name((ExecutableElement) trees.getElement(getCurrentPath()));
             making = tree.getReturnType() == null;
             calls.put(inside, new LinkedHashSet<>());
-            return super.visitMethod(tree, none);
+            super.visitMethod(tree, none);
+            inside = "";
+            return null;
         }
 
         @Override
@@ -211,9 +216,16 @@ public final class LanguageTest {
             if (tree.getClassBody() != null) {
                 banned(tree, "an anonymous class");
             } else if (!EXCEPTIONS.contains(tree.getIdentifier().toString())) {
+                makes(tree);
                 called((ExecutableElement) made, tree);
             }
             return super.visitNewClass(tree, none);
+        }
+
+        @Override
+        public Void visitNewArray(NewArrayTree tree, Void none) {
+            makes(tree);
+            return super.visitNewArray(tree, none);
         }
 
         @Override
@@ -329,6 +341,13 @@ public final class LanguageTest {
             return super.visitAssignment(tree, none);
         }
 
+        /** Rule 12: all calls of a run share one room, so that rows are made in constructors, and by calls a law alone. */
+        private void makes(Tree tree) {
+            if (!inside.isEmpty() && !making && !inside.equals(MAKER)) {
+                banned(tree, "rule 12");
+            }
+        }
+
         /** Rule 9: a counter is held against a bound. */
         private void bounded(ExpressionTree condition, Tree loop) {
             if (condition == null || !condition.toString().matches(".*[<>]=? .*")) {
@@ -354,6 +373,9 @@ public final class LanguageTest {
         private void called(ExecutableElement method, Tree at) {
             String name = name(method);
             boolean own = name.startsWith("PainBank");
+            if (COPIERS.contains(name)) {
+                makes(at);
+            }
             if (!own && !LIBRARY.contains(name)) {
                 banned(at, "rule 4, " + name);
             }
